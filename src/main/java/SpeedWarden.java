@@ -730,7 +730,6 @@ public final class SpeedWarden {
 
         private boolean isReadable() {
             place = 0;
-            orders = 0;
             for (int k = 0; k < MOST_ORDERS; k++) {
                 if (!readsOrder(k)) {
                     return false;

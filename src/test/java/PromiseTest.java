@@ -221,6 +221,15 @@ public final class PromiseTest {
         due("the last cell that 10 slows", w.cell(39, 4), 5);
         due("the last cell that 12 slows", w.cell(41, 4), 9);
         due("behind both", w.cell(42, 4), 40);
+        int[] saw = {9, 3, 5, 7, 4, 8, 2, 6, 6, 1, 1, 30, 20, 25, 22, 24, 23, 21};
+        for (int x = 0; x < saw.length; x++) {
+            w.lays(0, x, x, saw[x]);
+        }
+        w.sets(2, 3);
+        int[] sawInForce = {9, 3, 3, 3, 4, 4, 2, 2, 2, 1, 1, 1, 1, 20, 20, 22, 22, 21};
+        for (int x = 0; x < saw.length; x++) {
+            due("in force at " + x, w.cell(x, 4), sawInForce[x]);
+        }
         int[][] bad = {{-1, 0}, {100, 0}, {0, -1}, {0, 5}, {LOWEST, 4}, {HIGHEST, 4}, {0, LOWEST}, {0, HIGHEST}};
         for (int[] b : bad) {
             due("cell of wrong numbers", w.cell(b[0], b[1]), -2);
@@ -330,6 +339,9 @@ public final class PromiseTest {
         due("NONE is no refusal", w.told(0), 0);
         w.sets(0, 9);
         due("square would be just 0", w.stands(0, 3), 0);
+        w.sets(0, 8);
+        due("square would be just 1", w.stands(0, 3), 1);
+        due("just too fast for one cell", w.speed(0, 0), 2);
         int[][] bad = {{-1, 0}, {8, 0}, {0, -1}, {0, 100}, {LOWEST, 5}, {HIGHEST, 5}, {0, LOWEST}, {0, HIGHEST}};
         for (int[] b : bad) {
             due("stands of wrong numbers", w.stands(b[0], b[1]), -2);
@@ -452,6 +464,9 @@ public final class PromiseTest {
         w.places(99, 1);
         due("braked at the end", w.steps(-1), 0);
         due("overruns", w.train(10), 1);
+        w.places(99, 1);
+        due("just over the end", w.steps(0), 0);
+        due("overruns", w.train(10), 2);
         due("wentOn", w.train(12), 5);
     }
 
@@ -585,6 +600,12 @@ public final class PromiseTest {
         w.steps(1);
         w.steps(0);
         trainIs(w, 39, 13, 3, 0, 38700, 39300, 38, 39, 3, 0, 0, 0, 3);
+
+        w.lengthens(200);
+        w.sets(3, 1);
+        w.places(179, 3);
+        w.steps(0);
+        trainIs(w, 180, 9, 3, 0, 179999, 180001, 179, 181, 13);
 
         w = new SpeedWarden();
         w.lays(0, 5, 5, 2);
@@ -846,6 +867,8 @@ public final class PromiseTest {
         trainIs(w, 4, 9801, 99, 3, 4000, 4000, 4, 4, 9, 1, 0, 0, 0);
         due("another digest: refusals and the text stay", ahead == w.digest() ? 1 : 0, 0);
 
+        backFromEach();
+
         w = new SpeedWarden();
         w.lengthens(50);
         w.back();
@@ -855,6 +878,38 @@ public final class PromiseTest {
         due("back()", w.back(), 0);
         due("told(4)", w.told(4), 10);
         due("told(3)", w.told(3), 100);
+    }
+
+    /** Each call told S, behind others that made all as no new object is. */
+    private static void backFromEach() {
+        for (int call = 0; call < 10; call++) {
+            SpeedWarden w = new SpeedWarden();
+            types(w, "len 40;brake 3;ceil 1 1 1;grade 2 2 2;beacon 3;");
+            w.lengthens(30);
+            w.lays(1, 0, 29, -1);
+            w.beacon(29, 1);
+            w.places(29, 99);
+            w.steps(0);
+            long ahead = w.digest();
+            due("call " + call + " is not refused", oneOf(w, call) >= 0 ? 1 : 0, 1);
+            due("call " + call + " and back", w.back(), 5);
+            due("digest behind call " + call, w.digest(), ahead);
+        }
+    }
+
+    private static int oneOf(SpeedWarden w, int call) {
+        switch (call) {
+            case 0: return w.lengthens(17);
+            case 1: return w.lays(0, 2, 7, 33);
+            case 2: return w.lays(1, 2, 7, 11);
+            case 3: return w.beacon(29, 0);
+            case 4: return w.sets(0, 50);
+            case 5: return w.places(12, 60);
+            case 6: return w.steps(1);
+            case 7: return w.frees();
+            case 8: return w.drives(9);
+            default: return w.does();
+        }
     }
 
     private static void type(SpeedWarden w) {
