@@ -774,28 +774,34 @@ public final class PromiseTest {
 
     private static void ordersRefused() {
         promise = "20 orders refused";
-        SpeedWarden w = new SpeedWarden();
-        w.places(3, 5);
         String[] texts = {"len 4;", "len 201;", "ceil 0 100 5;", "ceil 3 2 5;", "ceil 0 0 61;", "grade 0 0 -21;",
             "grade 0 0 21;", "beacon 100;", "brake 0;", "brake 61;", "pull 31;", "long 0;", "long 31;", "error 101;"};
         for (String text : texts) {
-            due("does() of '" + text + "'", does(w, text), -1000);
-            due("why(0)", w.why(0), 3);
-            due("why(1)", w.why(1), 0);
-            due("does() of it behind others", does(w, "len 100;ceil 0 9 3;" + text + "len 4;"), -1002);
-            due("why(1)", w.why(1), 2);
-            due("cell(0, 0)", w.cell(0, 0), 40);
-            due("lawful(0)", w.lawful(0), 1000);
-            due("train(0)", w.train(0), 3);
+            orderRefused(text);
         }
-        toldIs(w, 0, 0, 0, 0);
-        due("told(12)", w.told(12), 1);
+        SpeedWarden w = new SpeedWarden();
+        w.places(3, 5);
         due("refused by what stands then", does(w, "len 50;beacon 50;"), -1001);
         due("lawful by what stands then", does(w, "len 150;beacon 149;"), 2);
         due("a fault goes ahead of what is refused", does(w, "len 4;x"), -16);
         due("back()", w.back(), 1);
         due("told(3)", w.told(3), 100);
         due("train(0)", w.train(0), 3);
+    }
+
+    private static void orderRefused(String text) {
+        SpeedWarden w = new SpeedWarden();
+        w.places(3, 5);
+        due("does() of '" + text + "'", does(w, text), -1000);
+        due("why(0)", w.why(0), 3);
+        due("why(1)", w.why(1), 0);
+        due("does() of it behind others", does(w, "len 100;ceil 0 9 3;" + text + "len 4;"), -1002);
+        due("why(1)", w.why(1), 2);
+        due("cell(0, 0)", w.cell(0, 0), 40);
+        due("lawful(0)", w.lawful(0), 1000);
+        due("train(0)", w.train(0), 3);
+        toldIs(w, 0, 0, 0, 0);
+        due("told(12)", w.told(12), 1);
     }
 
     private static void why() {
