@@ -96,6 +96,7 @@ public final class TextSentencesTest extends Sentences {
         due("does()", w.does(), -10);
         types(w, "len 5;brake 7;");
         w.clear();
+        due("does()", w.does(), -10);
         due("does()", does(w, "len 6;"), 1);
         due("told(3)", w.told(3), 6);
         due("told(4)", w.told(4), 10);
@@ -444,9 +445,16 @@ public final class TextSentencesTest extends Sentences {
         }
     }
 
-    /** Seven CELLS, a train on its way, six STATES, CAUSE 1 at place 0, and the text. */
+    /**
+     * Seven CELLS, a train on its way, six STATES, CAUSE 1 at place 0, and the text. What is refused comes first, so
+     * that the six STATES have seen no refusal yet.
+     */
     private static SpeedWarden busy(String text) {
-        SpeedWarden w = track(7);
+        SpeedWarden w = new SpeedWarden();
+        w.train(-1);
+        w.frees();
+        does(w, "x");
+        w.lengthens(7);
         w.lays(0, 2, 3, 9);
         w.lays(1, 1, 4, -3);
         w.beacon(3, 1);
@@ -454,9 +462,6 @@ public final class TextSentencesTest extends Sentences {
         w.sets(0, 12);
         w.places(1, 2);
         w.steps(1);
-        w.train(-1);
-        w.frees();
-        does(w, "x");
         types(w, text);
         return w;
     }

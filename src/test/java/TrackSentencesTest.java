@@ -7,6 +7,7 @@ public final class TrackSentencesTest extends Sentences {
     private void all() {
         newObject();
         limitsOfTheTrack();
+        limitsOfCells();
         limitsOfSettings();
         decel();
         ceilingInForce();
@@ -63,12 +64,16 @@ public final class TrackSentencesTest extends Sentences {
         says("1 objects share nothing");
         w = new SpeedWarden();
         SpeedWarden other = new SpeedWarden();
+        long ahead = other.digest();
         w.lays(0, 0, 99, 1);
         w.places(3, 9);
         w.sets(0, 60);
         w.type(65);
         w.told(-1);
-        due("digest()", other.digest(), new SpeedWarden().digest());
+        w.frees();
+        w.does();
+        due("digest()", other.digest(), ahead);
+        due("digest() of a third", new SpeedWarden().digest(), ahead);
     }
 
     // ---- terms: the least and the greatest values
@@ -86,18 +91,6 @@ public final class TrackSentencesTest extends Sentences {
         due("lengthens(200)", w.lengthens(200), 5);
         due("told(3)", w.told(3), 200);
 
-        says("CELLS 0 .. L less 1");
-        int[] sizes = {5, 100, 200};
-        for (int size : sizes) {
-            w = track(size);
-            cellsAreTaken(w, 0, size);
-            cellsAreTaken(w, size - 1, size);
-            int[] none = {LOWEST, -1, size, size + 1, HIGHEST};
-            for (int x : none) {
-                noCell(w, x, size);
-            }
-        }
-
         says("CEILING 0 .. 60");
         limitsOfLays(0, 0, 60, 0);
 
@@ -105,35 +98,41 @@ public final class TrackSentencesTest extends Sentences {
         limitsOfLays(1, -20, 20, 20);
     }
 
-    private void cellsAreTaken(SpeedWarden w, int x, int size) {
-        String at = " at " + x + " of " + size;
-        taken("cell" + at, w.cell(x, 0));
-        taken("lawful" + at, w.lawful(x));
-        taken("permitted" + at, w.permitted(x));
-        taken("bound" + at, w.bound(x));
-        taken("stands" + at, w.stands(x, 0));
-        taken("speed" + at, w.speed(x, 0));
-        taken("places" + at, w.places(x, 0));
-        taken("beacon" + at, w.beacon(x, 0));
-        taken("lays from" + at, w.lays(0, x, size - 1, 40));
-        taken("lays to" + at, w.lays(0, 0, x, 40));
+    /** What a call answers of CELL x; the other numbers of the call are as told. */
+    private interface OfCell {
+        int asks(SpeedWarden w, int x);
     }
 
-    private void noCell(SpeedWarden w, int x, int size) {
-        String at = " at " + x + " of " + size;
-        for (int what = 0; what <= 4; what++) {
-            due("cell" + at, w.cell(x, what), BAD);
+    private void limitsOfCells() {
+        takesCells("3 CELL a of lays: 0 .. L less 1", (w, x) -> w.lays(0, x, w.told(3) - 1, 40));
+        takesCells("3 CELL b of lays: 0 .. L less 1", (w, x) -> w.lays(1, 0, x, 0));
+        takesCells("3 CELLS a and b of lays: 0 .. L less 1", (w, x) -> w.lays(0, x, x, 40));
+        takesCells("4 CELL a of beacon: 0 .. L less 1", (w, x) -> w.beacon(x, 0));
+        for (int k = 0; k <= 4; k++) {
+            int what = k;
+            takesCells("6 CELL x of cell, what " + what + ": 0 .. L less 1", (w, x) -> w.cell(x, what));
         }
-        due("lawful" + at, w.lawful(x), BAD);
-        due("permitted" + at, w.permitted(x), BAD);
-        due("bound" + at, w.bound(x), BAD);
-        due("stands" + at, w.stands(x, 0), BAD);
-        due("speed" + at, w.speed(x, 0), BAD);
-        due("places" + at, w.places(x, 0), BAD);
-        due("beacon" + at, w.beacon(x, 0), BAD);
-        due("lays from" + at, w.lays(0, x, size - 1, 40), BAD);
-        due("lays to" + at, w.lays(0, 0, x, 40), BAD);
-        due("lays from and to" + at, w.lays(1, x, x, 0), BAD);
+        takesCells("7 CELL x of lawful: 0 .. L less 1", (w, x) -> w.lawful(x));
+        takesCells("8 CELL x of permitted: 0 .. L less 1", (w, x) -> w.permitted(x));
+        takesCells("9 CELL x of bound: 0 .. L less 1", (w, x) -> w.bound(x));
+        takesCells("10 CELL x of stands: 0 .. L less 1", (w, x) -> w.stands(x, 0));
+        takesCells("11 CELL x of speed: 0 .. L less 1", (w, x) -> w.speed(x, 0));
+        takesCells("13 CELL x of places: 0 .. L less 1", (w, x) -> w.places(x, 0));
+    }
+
+    private void takesCells(String words, OfCell call) {
+        says(words);
+        int[] sizes = {5, 6, 100, 199, 200};
+        for (int size : sizes) {
+            SpeedWarden w = track(size);
+            taken("CELL 0 of " + size, call.asks(w, 0));
+            taken("CELL " + (size - 1) + " of " + size, call.asks(w, size - 1));
+            int[] none = {LOWEST, -1, size, size + 1, HIGHEST};
+            for (int x : none) {
+                due("CELL " + x + " of " + size, call.asks(w, x), BAD);
+            }
+            due("told(0)", w.told(0), none.length);
+        }
     }
 
     private void limitsOfLays(int what, int least, int most, int shift) {
@@ -444,6 +443,12 @@ public final class TrackSentencesTest extends Sentences {
         cellIs(w, 4, 7, 23, 1);
         cellIs(w, 6, 40, 20, 0);
         cellIs(w, 199, 40, 20, 0);
+        w = new SpeedWarden();
+        for (int x = 100; x < 105; x++) {
+            w.lengthens(x + 1);
+            cellIs(w, x - 1, 40, 20, 0);
+            cellIs(w, x, 40, 20, 0);
+        }
 
         says("2 CELLS that go are gone");
         w = laidAll(new SpeedWarden(), 100);
@@ -606,6 +611,8 @@ public final class TrackSentencesTest extends Sentences {
             due("sets(" + what + ", 9)", w.sets(what, 9), BAD);
         }
         toldIs(w, 10, 0, 0, 100, 10, 6, 1, 20, 1, 3, 5, 0, 0);
+        due("sets(0, 11)", w.sets(0, 11), 10);
+        due("sets(6, 4)", w.sets(6, 4), 5);
 
         says("5 each what is its own setting");
         int[] first = {10, 6, 1, 20, 1, 3, 5};

@@ -534,12 +534,14 @@ public final class TrainSentencesTest extends Sentences {
 
         says("by SEEN p of the SPAN that is reached");
         SpeedWarden w = new SpeedWarden();
+        w.sets(0, 60);
         w.sets(3, 0);
         w.lays(0, 21, 21, 5);
-        due("PERMITTED 5, of 35", w.places(20, 6), 0);
-        w.lays(1, 20, 20, -13);
+        due("SEEN 9, of 85", w.places(20, 7), 0);
         w.steps(0);
         trainIs(w, 21, 49, 7, 1, 21000, 21000, 21, 21, 5);
+        w.steps(0);
+        trainIs(w, 22, 49, 7, 0, 22000, 22000, 22, 22, 40);
     }
 
     private void modesThatStay() {
